@@ -1,0 +1,102 @@
+/** Syndicates that several tests begin with, and short ways to use them. */
+final class Harbors {
+    private Harbors() {
+    }
+
+    static HarborLights withPorts(int count) {
+        HarborLights lights = new HarborLights();
+        for (int i = 0; i < count; i++) {
+            lights.addPort();
+        }
+        return lights;
+    }
+
+    /** Ports 0 to 4; port 4 has no leg. */
+    static HarborLights withChart() {
+        HarborLights lights = withPorts(5);
+        lights.addLeg(0, 1, 10, 5);
+        lights.addLeg(1, 2, 20, 3);
+        lights.addLeg(0, 2, 50, 2);
+        lights.addLeg(2, 3, 7, 9);
+        lights.addLeg(3, 1, 1, 12);
+        return lights;
+    }
+
+    /** Needs 3, 2 and 9, so shares 230, 80 and 4550. */
+    static HarborLights withShips() {
+        HarborLights lights = withChart();
+        lights.subscribe(0, 1, 1000);
+        lights.subscribe(0, 2, 200);
+        lights.subscribe(3, 1, 9999);
+        return lights;
+    }
+
+    /** A leg of reach 4 (960 grains) and subscribers for it with these moneys. */
+    static HarborLights withMoneys(int... moneys) {
+        HarborLights lights = withPorts(2);
+        lights.addLeg(0, 1, 9, 4);
+        for (int money : moneys) {
+            lights.subscribe(0, 1, money);
+        }
+        return lights;
+    }
+
+    static void type(HarborLights lights, String text) {
+        for (char character : text.toCharArray()) {
+            lights.type(character);
+        }
+    }
+
+    static int execute(HarborLights lights, String text) {
+        type(lights, text);
+        return lights.execute();
+    }
+
+    static String line(HarborLights lights, int length) {
+        StringBuilder line = new StringBuilder();
+        for (int i = 0; i < length; i++) {
+            line.append(lights.lineAt(i));
+        }
+        return line.toString();
+    }
+
+    private interface Field {
+        Object ask();
+    }
+
+    /** All that the methods tell of the state that is undone, saved and restored. */
+    static String picture(HarborLights lights) {
+        StringBuilder picture = new StringBuilder();
+        int ports = lights.portCount();
+        picture.append(ports).append(" ports, ").append(lights.litGroups()).append(" groups");
+        for (int i = 0; i < lights.legCount(); i++) {
+            int low = lights.lowerPortAt(i);
+            int high = lights.upperPortAt(i);
+            picture.append("; leg ").append(low).append('-').append(high);
+            picture.append(':').append(lights.lengthOf(low, high)).append('/').append(lights.reachOf(high, low));
+            picture.append('m').append(lights.meterOf(low, high)).append(lights.isLit(low, high) ? "*" : "");
+        }
+        for (int i = 0; i < lights.subscriberCount(); i++) {
+            int ship = i;
+            picture.append("; ship ").append(lights.startOf(i)).append('>').append(lights.goalOf(i));
+            picture.append(':').append(lights.moneyOf(i)).append(" need ").append(answer(() -> lights.needOf(ship)));
+            picture.append(" nights ").append(lights.litNightsOf(i)).append('/').append(lights.darkNightsOf(i));
+            picture.append(" share ").append(answer(() -> lights.shareOf(ship)));
+            picture.append('/').append(answer(() -> lights.shareByOrders(ship)));
+            picture.append(" next ").append(lights.wouldBeLit(i)).append(" dark ").append(lights.subscriberByDark(i));
+        }
+        picture.append("; fog ").append(lights.fogNights()).append(" range ").append(lights.range());
+        picture.append(" next ").append(lights.nextRange()).append(" nights ").append(lights.nightCount());
+        picture.append(" fund ").append(lights.fund()).append(" refunded ").append(lights.refunded());
+        picture.append(" mean ").append(answer(lights::meanMoney)).append(" lit ").append(answer(lights::litShare));
+        return picture.append(" consistent ").append(lights.isConsistent()).toString();
+    }
+
+    private static String answer(Field field) {
+        try {
+            return String.valueOf(field.ask());
+        } catch (RuntimeException thrown) {
+            return thrown.getClass().getSimpleName();
+        }
+    }
+}
