@@ -860,8 +860,6 @@ public final class HarborLights {
         void clear() {
             for (int ship = 0; ship < MAX_SUBSCRIBERS; ship++) {
                 takesPart[ship] = false;
-                share[ship] = NONE;
-                need[ship] = NONE;
             }
         }
 
@@ -873,8 +871,8 @@ public final class HarborLights {
         int greatestNeed() {
             int greatest = 0;
             for (int ship = 0; ship < MAX_SUBSCRIBERS; ship++) {
-                if (takesPart[ship]) {
-                    greatest = Math.max(greatest, need[ship]);
+                if (takesPart[ship] && need[ship] > greatest) {
+                    greatest = need[ship];
                 }
             }
             return greatest;
@@ -1308,7 +1306,6 @@ public final class HarborLights {
 
         void clear() {
             length = 0;
-            position = 0;
         }
 
         void rewind() {

@@ -17,6 +17,7 @@ public final class ChartTest {
         promises5And6Counts();
         promises7To9Leg();
         promise10Meter();
+        promise10MetersMoveWithLegs();
         promise11IsLit();
         promises12And13Order();
         CHECK.end();
@@ -172,6 +173,32 @@ public final class ChartTest {
         CHECK.equal("another leg keeps its meter still", lights.meterOf(2, 1), 3);
         CHECK.fails("no leg", ELEMENT, () -> lights.meterOf(0, 3));
         CHECK.fails("same port", ELEMENT, () -> lights.meterOf(3, 3));
+    }
+
+    private static void promise10MetersMoveWithLegs() {
+        HarborLights lights = Harbors.withShips();
+        for (int i = 0; i < 3; i++) {
+            lights.night();
+        }
+        lights.subscribe(0, 2, 240);
+        lights.night();
+        checkMeters(lights, 4, 3, 2, 2, 0);
+        lights.addLeg(3, 4, 1, 3);
+        checkMeters(lights, 4, 0, 3, 2, 2, 0);
+        lights.addLeg(2, 4, 1, 1);
+        checkMeters(lights, 0, 4, 0, 3, 2, 2, 0);
+        lights.removeLeg(0, 2);
+        checkMeters(lights, 0, 0, 3, 2, 2, 0);
+        lights.removeLeg(4, 3);
+        checkMeters(lights, 0, 3, 2, 2, 0);
+        lights.removeLeg(0, 1);
+        checkMeters(lights, 0, 3, 2, 0);
+    }
+
+    private static void checkMeters(HarborLights lights, int... due) {
+        for (int i = 0; i < due.length; i++) {
+            CHECK.equal("meter at " + i, lights.meterOf(lights.lowerPortAt(i), lights.upperPortAt(i)), due[i]);
+        }
     }
 
     private static void promise11IsLit() {

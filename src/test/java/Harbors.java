@@ -41,6 +41,20 @@ final class Harbors {
         return lights;
     }
 
+    /** As many ports, legs and subscribers as there may be; the need of each subscriber is 3, its share 90. */
+    static HarborLights full() {
+        HarborLights lights = withPorts(10);
+        for (int from = 0; lights.legCount() < 20; from++) {
+            for (int to = from + 1; to < 10 && lights.legCount() < 20; to++) {
+                lights.addLeg(from, to, to, 3 - from);
+            }
+        }
+        for (int goal = 4; goal < 10; goal++) {
+            lights.subscribe(0, goal, 200);
+        }
+        return lights;
+    }
+
     static void type(HarborLights lights, String text) {
         for (char character : text.toCharArray()) {
             lights.type(character);

@@ -54,10 +54,11 @@ public final class ModelTest {
         }
 
         void go() throws ReflectiveOperationException {
-            int ports = random.nextInt(11);
-            for (int i = 0; i < ports; i++) {
-                call("addPort");
-            }
+            begin("addPort", random.nextInt(11));
+            begin("addLeg port port length reach", 3 * random.nextInt(15));
+            begin("subscribe port port money", random.nextInt(10));
+            begin("night", random.nextInt(3));
+            begin("deposit ship money", random.nextInt(12));
             while (calls.size() < CALLS && CHECK.wrong() == 0) {
                 if (random.nextInt(12) == 0) {
                     text();
@@ -66,6 +67,12 @@ public final class ModelTest {
                 }
             }
             everything();
+        }
+
+        private void begin(String method, int times) throws ReflectiveOperationException {
+            for (int i = 0; i < times; i++) {
+                call(method);
+            }
         }
 
         private void text() throws ReflectiveOperationException {
@@ -149,6 +156,12 @@ public final class ModelTest {
                 for (String name : new String[] {"hasLeg", "lengthOf", "reachOf", "meterOf", "isLit", "distance",
                     "distanceByRounds", "litDistance", "neededRange", "neededRangeByTrial"}) {
                     compare(name, new Class<?>[] {int.class, int.class}, new Object[] {from, to});
+                }
+            }
+            for (int position = 0; position < model.legCount(); position++) {
+                Object[] ports = {model.lowerPortAt(position), model.upperPortAt(position)};
+                for (String name : new String[] {"lengthOf", "reachOf", "meterOf", "isLit"}) {
+                    compare(name, new Class<?>[] {int.class, int.class}, ports);
                 }
             }
             for (int position = -1; position <= model.legCount(); position++) {

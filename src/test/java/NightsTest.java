@@ -10,6 +10,7 @@ public final class NightsTest {
         promise35DropOut();
         promise35ExactMoney();
         promise35NoRoute();
+        promise35Full();
         promise35Fog();
         promise35FogWithoutShips();
         promises36And37Forecast();
@@ -93,6 +94,31 @@ public final class NightsTest {
         CHECK.equal("dark without a route", lights.darkNightsOf(2), 1);
         CHECK.equal("lit with one", lights.litNightsOf(1), 1);
         CHECK.yes("consistent", lights.isConsistent());
+    }
+
+    private static void promise35Full() {
+        HarborLights lights = Harbors.full();
+        CHECK.yes("consistent", lights.isConsistent());
+        CHECK.equal("groups in the dark", lights.litGroups(), 10);
+        CHECK.equal("all six", lights.night(), 6);
+        checkMoneys(lights, 110, 110, 110, 110, 110, 110);
+        CHECK.equal("groups", lights.litGroups(), 1);
+        for (int i = 0; i < 20; i++) {
+            CHECK.equal("meter", lights.meterOf(lights.lowerPortAt(i), lights.upperPortAt(i)), 1);
+        }
+        CHECK.equal("all six again", lights.night(), 6);
+        CHECK.equal("nobody can pay", lights.night(), 0);
+        for (int rank = 0; rank < 6; rank++) {
+            CHECK.equal("subscriberByDark", lights.subscriberByDark(rank), rank);
+            CHECK.equal("darkNightsOf", lights.darkNightsOf(rank), 1);
+        }
+        CHECK.equal("litShare", lights.litShare(), 12.0f / 18.0f);
+        CHECK.equal("meanMoney", lights.meanMoney(), 20.0);
+        CHECK.yes("consistent", lights.isConsistent());
+        lights.leave(5);
+        CHECK.equal("share among five", lights.shareOf(4), 108);
+        CHECK.equal("share among five, by orders", lights.shareByOrders(4), 108);
+        CHECK.fails("no sixth", java.util.NoSuchElementException.class, () -> lights.subscriberByDark(5));
     }
 
     private static void promise35Fog() {

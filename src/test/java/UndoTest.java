@@ -91,7 +91,7 @@ public final class UndoTest {
         HarborLights lights = Harbors.withMoneys(5);
         Harbors.type(lights, "po");
         lights.undo();
-        CHECK.equal("the buffer stays", lights.type('r'), 4 - 1);
+        CHECK.equal("the buffer stays", lights.type('r'), 3);
         lights.save();
         lights.type('t');
         lights.restore();
