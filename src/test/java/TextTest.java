@@ -173,6 +173,8 @@ public final class TextTest {
         checkError("leg 0 1 5 1 ", 11);
         checkError("leg 0 1 5 1;", 12);
         checkError("cut 0", 5);
+        checkError("cut 0 12", 7);
+        checkError("cut 10 2", 5);
         checkError("cut 0 1 2", 7);
         checkError("cu 0 1", 2);
         checkError("ship 0 1 12345", 13);
