@@ -62,6 +62,10 @@ final class Check {
         return wrong;
     }
 
+    int checks() {
+        return checks;
+    }
+
     void end() {
         System.out.println(name + ": " + checks + " checks, " + wrong + " wrong");
         if (wrong > 0) {

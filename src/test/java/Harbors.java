@@ -44,15 +44,49 @@ final class Harbors {
     /** As many ports, legs and subscribers as there may be; the need of each subscriber is 3, its share 90. */
     static HarborLights full() {
         HarborLights lights = withPorts(10);
-        for (int from = 0; lights.legCount() < 20; from++) {
-            for (int to = from + 1; to < 10 && lights.legCount() < 20; to++) {
-                lights.addLeg(from, to, to, 3 - from);
+        int legs = 0;
+        for (int from = 0; legs < 20; from++) {
+            for (int to = from + 1; to < 10 && legs < 20; to++) {
+                legs = lights.addLeg(from, to, to, 3 - from);
             }
         }
         for (int goal = 4; goal < 10; goal++) {
             lights.subscribe(0, goal, 200);
         }
         return lights;
+    }
+
+    /** The ships of withShips after a night, with something in all that a refused call could spoil. */
+    static HarborLights lived() {
+        return livedIn(withShips());
+    }
+
+    /** The same with as many ports, legs and subscribers as there may be. */
+    static HarborLights livedFull() {
+        return livedIn(full());
+    }
+
+    private static HarborLights livedIn(HarborLights lights) {
+        lights.setFog(4);
+        lights.night();
+        lights.save();
+        lights.deposit(0, 5);
+        lights.writeLeg(0);
+        refuse(lights, "pox");
+        refuse(lights, "fog 2;leave 9");
+        type(lights, "port;po");
+        return lights;
+    }
+
+    /** Executes a text that is malformed or fails. */
+    static void refuse(HarborLights lights, String text) {
+        type(lights, text);
+        try {
+            lights.execute();
+        } catch (IllegalArgumentException | IllegalStateException thrown) {
+            return;
+        }
+        throw new UnsupportedOperationException("not refused: " + text);
     }
 
     static void type(HarborLights lights, String text) {
@@ -83,14 +117,16 @@ final class Harbors {
         StringBuilder picture = new StringBuilder();
         int ports = lights.portCount();
         picture.append(ports).append(" ports, ").append(lights.litGroups()).append(" groups");
-        for (int i = 0; i < lights.legCount(); i++) {
+        int legs = lights.legCount();
+        for (int i = 0; i < legs; i++) {
             int low = lights.lowerPortAt(i);
             int high = lights.upperPortAt(i);
             picture.append("; leg ").append(low).append('-').append(high);
             picture.append(':').append(lights.lengthOf(low, high)).append('/').append(lights.reachOf(high, low));
             picture.append('m').append(lights.meterOf(low, high)).append(lights.isLit(low, high) ? "*" : "");
         }
-        for (int i = 0; i < lights.subscriberCount(); i++) {
+        int ships = lights.subscriberCount();
+        for (int i = 0; i < ships; i++) {
             int ship = i;
             picture.append("; ship ").append(lights.startOf(i)).append('>').append(lights.goalOf(i));
             picture.append(':').append(lights.moneyOf(i)).append(" need ").append(answer(() -> lights.needOf(ship)));
@@ -104,6 +140,44 @@ final class Harbors {
         picture.append(" fund ").append(lights.fund()).append(" refunded ").append(lights.refunded());
         picture.append(" mean ").append(answer(lights::meanMoney)).append(" lit ").append(answer(lights::litShare));
         return picture.append(" consistent ").append(lights.isConsistent()).toString();
+    }
+
+    /** All that the methods tell of an object; it is used up by this, by some 450 calls at most. */
+    static String everything(HarborLights lights) {
+        StringBuilder all = new StringBuilder(picture(lights));
+        all.append("; line ");
+        String character = answer(lineAt(lights, 0));
+        for (int i = 1; character.length() == 1 && i < 99; i++) {
+            all.append(character);
+            character = answer(lineAt(lights, i));
+        }
+        all.append("; malformed ").append(answer(lights::errorPosition));
+        all.append("; failed ").append(answer(lights::failedCommand));
+        String left = answer(lights::undo);
+        for (int i = 0; i < 9 && !left.startsWith("Illegal"); i++) {
+            all.append("; undo ").append(left).append(' ').append(sketch(lights));
+            left = answer(lights::undo);
+        }
+        all.append("; restore ").append(answer(lights::restore)).append(' ').append(sketch(lights));
+        all.append("; type ").append(answer(() -> lights.type('~'))).append(", execute "
+                + "").append(answer(lights::execute));
+        return all.append(", malformed ").append(answer(lights::errorPosition)).toString();
+    }
+
+    private static Field lineAt(HarborLights lights, int index) {
+        return () -> lights.lineAt(index);
+    }
+
+    /** What changes with each modification. */
+    private static String sketch(HarborLights lights) {
+        StringBuilder sketch = new StringBuilder();
+        sketch.append(lights.portCount()).append(' ').append(lights.legCount()).append(' ').append(lights.fogNights());
+        sketch.append(' ').append(lights.nightCount()).append(' ').append(lights.fund()).append(" money");
+        int ships = lights.subscriberCount();
+        for (int ship = 0; ship < ships; ship++) {
+            sketch.append(' ').append(lights.moneyOf(ship));
+        }
+        return sketch.toString();
     }
 
     private static String answer(Field field) {
