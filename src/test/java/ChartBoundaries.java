@@ -167,10 +167,15 @@ final class ChartBoundaries {
         check.equal("another leg", lights.meterOf(1, 2), 1);
         lights.night();
         check.equal("a night later", lights.meterOf(0, 2), 1);
-        lights.removeLeg(2, 3);
-        lights.removeLeg(0, 1);
-        lights.addLeg(1, 0, 10, 5);
-        check.equal("after others moved", lights.meterOf(0, 1), 0);
+        check.equal("another leg a night later", lights.meterOf(1, 2), 2);
+        lights.addLeg(3, 4, 1, 1);
+        check.equal("a new leg before all others", lights.meterOf(3, 4), 0);
+        check.equal("another leg that it moved", lights.meterOf(1, 2), 2);
+        lights.removeLeg(1, 2);
+        lights.addLeg(2, 1, 99, 20);
+        check.equal("as another leg between the two", lights.meterOf(1, 2), 0);
+        check.equal("a leg that it moved back", lights.meterOf(0, 1), 2);
+        check.equal("the leg that was never lit", lights.meterOf(1, 3), 0);
     }
 
     private static void newObject(Check check) {

@@ -94,6 +94,9 @@ final class NightBoundaries {
             HarborLights less = Harbors.withMoneys(money);
             check.equal("a grain less", less.night(), 0);
             checkMoneys(check, less, money);
+            less.setFog(1);
+            check.equal("a grain less, of which half would come back", less.night(), 0);
+            checkMoneys(check, less, money);
         }
     }
 
@@ -334,6 +337,9 @@ final class NightBoundaries {
         lights.deposit(0, 4002);
         check.equal("just enough for the greatest range", lights.nextRange(), 20);
         check.equal("the range is another", lights.range(), 0);
+        lights.night();
+        check.equal("nobody can pay now", lights.nextRange(), 0);
+        check.equal("the range of the last night", lights.range(), 20);
     }
 
     private static void lastRange(Check check) {
@@ -404,5 +410,7 @@ final class NightBoundaries {
         HarborLights lit = Harbors.withMoneys(960);
         lit.night();
         check.equal("one lit night", lit.litShare(), 1);
+        lit.night();
+        check.equal("one of two", lit.litShare(), 0.5f);
     }
 }

@@ -17,6 +17,8 @@ final class RouteBoundaries {
 
     static void run(Sentences sentences) {
         terms(sentences);
+        sentences.test(14, "Returns the length of a shortest route, by going on from the nearest port.",
+                RouteBoundaries::longestRoute);
         sentences.test(14, LENGTH, check -> samePortIsNoWay(check, HarborLights::distance));
         sentences.test(14, NO_PORT, check -> Refusal.noSuchPort(check, HarborLights::distance));
         sentences.test(14, NO_ROUTE, check -> noRoute(check, HarborLights::distance));
@@ -159,6 +161,20 @@ final class RouteBoundaries {
         return lights;
     }
 
+    private static void longestRoute(Check check) {
+        HarborLights lights = Harbors.withPorts(10);
+        for (int port = 0; port < 9; port++) {
+            lights.addLeg(port, port + 1, 99, 1 + port);
+        }
+        check.equal("nine legs of length 99", lights.distance(0, 9), 891);
+        check.equal("nine legs back", lights.distance(9, 0), 891);
+        lights.addLeg(0, 8, 1, 20);
+        check.equal("a short leg and a long one", lights.distance(0, 9), 100);
+        check.equal("the other way round", lights.distance(9, 1), 199);
+        lights.removeLeg(0, 8);
+        check.equal("nine legs again", lights.distance(0, 9), 891);
+    }
+
     /** Each round finds one port only, so that as many rounds are needed as there may be. */
     private static void mostRounds(Check check) {
         HarborLights lights = Harbors.withPorts(10);
@@ -212,6 +228,7 @@ final class RouteBoundaries {
         }
         check.equal("need", lights.neededRange(9, 0), 20);
         check.equal("need by trial", lights.neededRangeByTrial(9, 0), 20);
+        check.equal("need by trial, against the order of legs", lights.neededRangeByTrial(0, 9), 20);
         check.equal("need of the last two", lights.neededRangeByTrial(9, 8), 12);
         lights.addLeg(0, 9, 99, 1);
         check.equal("the least need by trial", lights.neededRangeByTrial(0, 9), 1);

@@ -106,21 +106,38 @@ final class SubscriberBoundaries {
     /** The first, one in the middle and the last of six: the earlier ones keep their numbers. */
     private static void oneLeaves(Check check) {
         for (int gone = 0; gone < 6; gone++) {
-            HarborLights lights = Harbors.full();
+            HarborLights lights = sixThatSubscribedOneByOne();
+            int[] moneys = new int[6];
             for (int ship = 0; ship < 6; ship++) {
-                lights.deposit(ship, 1 + ship);
+                moneys[ship] = lights.moneyOf(ship);
             }
-            lights.night();
-            check.equal("its money", lights.leave(gone), 111 + gone);
+            check.equal("its money", lights.leave(gone), moneys[gone]);
             check.equal("five are left", lights.subscriberCount(), 5);
             for (int ship = 0; ship < 5; ship++) {
                 int before = ship < gone ? ship : ship + 1;
-                check.equal("money of " + ship, lights.moneyOf(ship), 111 + before);
+                check.equal("start of " + ship, lights.startOf(ship), before);
                 check.equal("goal of " + ship, lights.goalOf(ship), 4 + before);
+                check.equal("money of " + ship, lights.moneyOf(ship), moneys[before]);
+                check.equal("lit nights of " + ship, lights.litNightsOf(ship), before % 2 == 0 ? 6 - before : 0);
+                check.equal("dark nights of " + ship, lights.darkNightsOf(ship), before % 2 == 0 ? 0 : 6 - before);
             }
             check.equal("a new one is the last", lights.subscribe(1, 2, 7), 5);
+            check.equal("the new one's start", lights.startOf(5), 1);
             check.equal("the new one's nights", lights.litNightsOf(5) + lights.darkNightsOf(5), 0);
         }
+    }
+
+    /** Every other one can pay; the first has six nights, the last has one. */
+    private static HarborLights sixThatSubscribedOneByOne() {
+        HarborLights lights = Harbors.withPorts(10);
+        for (int port = 1; port < 10; port++) {
+            lights.addLeg(0, port, 1, 4);
+        }
+        for (int ship = 0; ship < 6; ship++) {
+            lights.subscribe(ship, 4 + ship, ship % 2 == 0 ? 9990 + ship : ship);
+            lights.night();
+        }
+        return lights;
     }
 
     private static void needThatIsLostAndFound(Check check) {

@@ -134,11 +134,15 @@ final class TextBoundaries {
         checkMalformed(check, "leg 0 1 5", 9);
         checkMalformed(check, "leg 0 1 5 5 5", 11);
         checkMalformed(check, "cut 0", 5);
+        checkMalformed(check, "cut 00 1", 5);
         checkMalformed(check, "cut 0 11", 7);
         checkMalformed(check, "cut 0 1 1", 7);
+        checkMalformed(check, "ship 00 1 5", 6);
+        checkMalformed(check, "ship 0 11 5", 8);
         checkMalformed(check, "ship 0 1", 8);
         checkMalformed(check, "ship 0 1 ", 9);
         checkMalformed(check, "ship 0 1 00001", 13);
+        checkMalformed(check, "pay 00 5", 5);
         checkMalformed(check, "pay 0", 5);
         checkMalformed(check, "pay 0 ", 6);
         checkMalformed(check, "pay 0 10000", 10);
@@ -164,8 +168,10 @@ final class TextBoundaries {
         check.equal("cut", lights.legCount(), 1);
         check.equal("leave", lights.moneyOf(0), 7);
         check.equal("fog", lights.fogNights(), 3);
-        Harbors.execute(lights, "pay 0 3");
-        check.equal("pay", lights.moneyOf(0), 10);
+        Harbors.execute(lights, "pay 0 9999;fog 9;leg 0 4 8 7;ship 4 0 9999");
+        check.equal("pay", lights.moneyOf(0), 10006);
+        check.equal("fog after a greater number", lights.fogNights(), 9);
+        check.equal("ship after a leg", lights.moneyOf(1), 9999);
     }
 
     private static void cannotContinue(Check check) {
@@ -345,8 +351,9 @@ final class TextBoundaries {
         check.fails("malformed behind commands that would fail", ARGUMENT, () -> lights.execute());
         check.equal("stored 20", lights.errorPosition(), 20);
         check.equal("no command failed", lights.failedCommand(), 1);
-        int left = lights.undo();
-        check.equal("nothing new to undo", left, 7);
+        lights.restore();
+        Harbors.refuse(lights, "port;nigh");
+        check.fails("nothing to undo", STATE, () -> lights.undo());
     }
 
     private static void failed(Check check) {
@@ -360,7 +367,9 @@ final class TextBoundaries {
         check.equal("stored 5", lights.failedCommand(), 5);
         check.equal("the error position stays", lights.errorPosition(), 7);
         check.equal("no port is left", lights.portCount(), 5);
-        check.equal("nothing new to undo", lights.undo(), 7);
+        lights.restore();
+        Harbors.refuse(lights, "port;leave 9");
+        check.fails("nothing to undo", STATE, () -> lights.undo());
     }
 
     private static void lastMalformed(Check check) {

@@ -26,10 +26,13 @@ final class UndoBoundaries {
     private static void undo(Sentences sentences) {
         String outside = "The text buffer, the error position, the index of the failed command and the line are not "
                 + "part of the state that is undone, saved or restored.";
+        String modifications = "The modifications are the successful calls of addPort, addLeg, removeLeg, subscribe, "
+                + "deposit, leave, setFog, night and execute.";
         sentences.test("Terms", "The last 8 successful modifications can be undone.", UndoBoundaries::eightOfMany);
-        sentences.test("Terms", "The modifications are the successful calls of addPort, addLeg, removeLeg, subscribe, "
-                + "deposit, leave, setFog, night and execute.", UndoBoundaries::modificationsWithoutEffect);
+        sentences.test("Terms", modifications, UndoBoundaries::eachModification);
+        sentences.test("Terms", modifications, UndoBoundaries::modificationsWithoutEffect);
         sentences.test("Terms", outside, UndoBoundaries::outsideOfUndo);
+        sentences.test("Terms", outside, UndoBoundaries::outsideOfSave);
         sentences.test("Terms", outside, UndoBoundaries::outsideOfRestore);
         sentences.test(53, "Undoes the last modification that can be undone.", UndoBoundaries::around);
         sentences.test(53, "Returns the number of modifications that can still be undone.",
@@ -55,6 +58,31 @@ final class UndoBoundaries {
             check.equal("ports that are left of " + count, lights.portCount(), Math.max(count - 8, 0));
             check.fails("one more of " + count, STATE, () -> lights.undo());
         }
+    }
+
+    private static void eachModification(Check check) {
+        checkUndone(check, "addPort", HarborLights::addPort);
+        checkUndone(check, "addLeg", lights -> lights.addLeg(0, 4, 1, 1));
+        checkUndone(check, "removeLeg", lights -> lights.removeLeg(0, 2));
+        checkUndone(check, "subscribe", lights -> lights.subscribe(0, 1, 5));
+        checkUndone(check, "deposit", lights -> lights.deposit(0, 5));
+        checkUndone(check, "leave", lights -> lights.leave(0));
+        checkUndone(check, "setFog", lights -> lights.setFog(9));
+        checkUndone(check, "night", HarborLights::night);
+        checkUndone(check, "execute", lights -> {
+            Harbors.refuse(lights, "~");
+            return Harbors.execute(lights, "port;cut 0 2;leave 1;fog 0;night");
+        });
+    }
+
+    private static void checkUndone(Check check, String what, Refusal.Call modification) {
+        HarborLights lights = Harbors.lived();
+        lights.restore();
+        String before = Harbors.picture(lights);
+        modification.on(lights);
+        check.no(what + " changes nothing", Harbors.picture(lights).equals(before));
+        check.equal("undo of " + what, lights.undo(), 0);
+        check.equal("all after undo of " + what, Harbors.picture(lights), before);
     }
 
     /** A modification counts as one also where it leaves all as it was. */
@@ -84,6 +112,12 @@ final class UndoBoundaries {
         for (int i = 0; i < 8; i++) {
             lights.undo();
         }
+        checkOutside(check, lights);
+    }
+
+    private static void outsideOfSave(Check check) {
+        HarborLights lights = Harbors.lived();
+        lights.save();
         checkOutside(check, lights);
     }
 
@@ -197,6 +231,11 @@ final class UndoBoundaries {
         lights.restore();
         check.equal("an empty one replaces it too", lights.subscriberCount(), 0);
         check.equal("ports", lights.portCount(), 2);
+        lights.addPort();
+        lights.save();
+        check.equal("what was before it can be undone", lights.undo(), 0);
+        lights.restore();
+        check.equal("the snapshot is not undone", lights.portCount(), 3);
     }
 
     private static void subscribersSaved(Check check) {
